@@ -119,6 +119,22 @@ public final class PromiseTest {
         due.is("of(2, 5)", y.of(2, 5), -5);
     }
 
+    /** The least PASS may be anybody's, and the only one's. */
+    private void clientPass() {
+        due.promise(4);
+        TicketHall x = hallOf(1);
+        x.stride(1);
+        x.client(0, 0);
+        due.is("of(1, 4)", x.of(1, 4), 100000000);
+        TicketHall y = hallOf(10, 20, 30);
+        y.stride(4);
+        due.is("of(0, 4)", y.of(0, 4), 10000000);
+        due.is("of(1, 4)", y.of(1, 4), 5000000);
+        due.is("of(2, 4)", y.of(2, 4), 6666666);
+        y.client(0, 0);
+        due.is("of(3, 4)", y.of(3, 4), 5000000);
+    }
+
     private void clientBehindUndo() {
         due.promise(4);
         TicketHall x = hallOf(5);
@@ -228,6 +244,47 @@ public final class PromiseTest {
         due.is("of(1, 5)", x.of(1, 5), 2);
     }
 
+    /** All eight in one chain: all that they have is the last one's. */
+    private void waitsAll() {
+        due.promise(8);
+        TicketHall x = hallOf(1, 2, 4, 8, 16, 32, 64, 128);
+        for (int p = 0; p < 7; p++) {
+            due.is("waits(p, p + 1)", x.waits(p, p + 1), -5);
+        }
+        due.is("waits(7, 0)", x.waits(7, 0), -3);
+        due.is("worth(3, 7)", x.worth(3, 7), 255);
+        due.is("told(3)", x.told(3), 128);
+        due.is("stride(40)", x.stride(40), 7);
+        due.is("draw(1, 40)", x.draw(1, 40), 7);
+        due.is("mean(0)", x.mean(0), 100);
+        due.is("mean(1)", x.mean(1), 1);
+        x.give(7, 0);
+        x.waits(6, -1);
+        due.is("stride(12)", x.stride(12), 6);
+        due.is("told(1)", x.told(1), 0);
+    }
+
+    /** PASSES of eight are lowered, and draws among eight find the last. */
+    private void allEight() {
+        due.promise(18);
+        TicketHall x = hallOf(1, 1, 1, 1, 1, 1, 1, 1);
+        for (int k = 0; k < 4; k++) {
+            x.stride(40);
+        }
+        x.stride(8);
+        due.is("told(1)", x.told(1), 0);
+        due.is("of(7, 4)", x.of(7, 4), 2100000000);
+        due.is("stride(1)", x.stride(1), 0);
+        due.is("told(1)", x.told(1), 1);
+        due.is("of(0, 4)", x.of(0, 4), 100000000);
+        due.is("of(7, 4)", x.of(7, 4), 0);
+        int whose = 0;
+        for (int seed = 0; seed < 100; seed++) {
+            whose |= 1 << x.on(seed, 1, 0);
+        }
+        due.is("whose", whose, 255);
+    }
+
     private void row() {
         due.promise(9);
         TicketHall x = new TicketHall();
@@ -301,6 +358,36 @@ public final class PromiseTest {
         due.is("of(0, 7) at 10", x.of(0, 7), 2);
         x.draw(0, 1);
         due.is("of(0, 7) at 20", x.of(0, 7), 9);
+    }
+
+    /** A ROW is each TOLD one's own; CLOCK by 10 is odd or even far beyond the first ones, too. */
+    private void partsLater() {
+        due.promise(10);
+        TicketHall x = new TicketHall();
+        for (int p = 0; p < 8; p++) {
+            x.client(6, 0);
+            for (int part = 0; part < 4; part++) {
+                due.is("row", x.row(p, part, 1), 0);
+            }
+            x.row(p, 0, p);
+        }
+        for (int clock = 0; clock < 120; clock += 20) {
+            for (int p = 0; p < 8; p++) {
+                due.is("of(p, 7)", x.of(p, 7), clock % 4 == 0 ? 10 - p : 9);
+            }
+            x.draw(0, 1);
+            due.is("of(0, 7)", x.of(0, 7), clock % 4 == 2 ? 5 : 4);
+            x.draw(0, 1);
+        }
+        for (int v = 0; v < 10; v++) {
+            TicketHall y = new TicketHall();
+            y.client(4, v);
+            y.client(5, v);
+            y.client(1, v);
+            due.is("SHY", y.of(0, 7), v == 0 ? 1 : (v + 1) / 2);
+            due.is("DAEMON", y.of(1, 7), 10 - v);
+            due.is("YIELDER", y.of(2, 7), v + 1);
+        }
     }
 
     /** USED makes WEIGHT ten times SHARE by it; a SERVER is READY only while another waits for it. */
@@ -426,10 +513,19 @@ public final class PromiseTest {
         due.is("needs(0, 1)", x.needs(0, 1), 6);
         due.is("needs(1, 1)", x.needs(1, 1), 4);
         due.is("needs(3, 1)", x.needs(3, 1), 4);
+        x.give(0, 0);
+        due.is("needs(0, 1)", x.needs(0, 1), 7);
+        x.back(0, 1);
         x.give(4, -1);
         due.is("needs(1, 1)", x.needs(1, 1), 0);
         due.is("needs(3, 1)", x.needs(3, 1), 4);
         due.is("needs(3, 0)", x.needs(3, 0), 0);
+        x.back(4, 3);
+        x.back(3, 3);
+        due.is("needs(1, 1)", x.needs(1, 1), 4);
+        x.give(3, -1);
+        due.is("needs(1, 1)", x.needs(1, 1), 0);
+        due.is("needs(2, 1)", x.needs(2, 1), 4);
         due.is("needs(4, 0)", x.needs(4, 0), -1);
         due.is("needs(-1, 1)", x.needs(-1, 1), -1);
         due.is("needs(0, 2)", x.needs(0, 2), -1);
@@ -517,6 +613,11 @@ public final class PromiseTest {
         due.is("count(1)", x.count(1), 24);
         due.is("fund", fund(x, "p0<1c0"), 0);
         due.is("fund", fund(x, "q0<1c0"), -10);
+        TicketHall y = hallOf(1);
+        String whole = "p0<10c0+10c0" + "+1c0".repeat(22);
+        feedAll(y, whole);
+        due.is("count(6)", y.count(6), 100);
+        due.is("fund of 100", y.fund(), 23);
     }
 
     private void draw() {
@@ -566,6 +667,32 @@ public final class PromiseTest {
         x.give(1, 1);
         int z = 99 * 1103515245 + 12345;
         due.is("draw(99, 1)", x.draw(99, 1), (z >>> 1) % 60 < 30 ? 0 : 1);
+    }
+
+    private void drawOfOne() {
+        due.promise(17);
+        TicketHall x = hallOf(1);
+        due.is("draw(8, 1)", x.draw(8, 1), 0);
+        due.is("of(0, 2)", x.of(0, 2), 10);
+    }
+
+    /** CLOCK and 10 times n may be 99999. */
+    private void limitItself(int promise) {
+        due.promise(promise);
+        TicketHall x = new TicketHall();
+        x.client(1, 8);
+        x.ticket(0, 1);
+        x.give(0, 0);
+        x.stride(1);
+        x.give(0, -1);
+        due.is("told(0)", x.told(0), 9);
+        go(x, 249);
+        x.stride(38);
+        due.is("told(0)", x.told(0), 99989);
+        due.is("draw(0, 2)", x.draw(0, 2), -3);
+        due.is("stride(2)", x.stride(2), -3);
+        due.is("on one", promise == 17 ? x.draw(0, 1) : x.stride(1), -5);
+        due.is("told(0)", x.told(0), 99999);
     }
 
     private void limit(int promise) {
@@ -655,6 +782,33 @@ public final class PromiseTest {
         due.is("of(0, 4)", y.of(0, 4), 50000000);
         due.is("told(1)", y.told(1), 1);
         due.is("of(1, 4)", y.of(1, 4), 2133333312 - 2100000000);
+    }
+
+    /** A PASS may be 2147483647 itself. */
+    private void loweredBeyond() {
+        due.promise(18);
+        TicketHall x = hallOf(1);
+        x.stride(21);
+        int[] amounts = {3, 8, 61, 9999};
+        for (int amount : amounts) {
+            x.amount(0, amount);
+            x.stride(1);
+        }
+        for (int t = 1; t <= 10; t++) {
+            x.ticket(0, 9999);
+            x.give(t, 0);
+        }
+        x.amount(0, 3209);
+        due.is("of(0, 8)", x.of(0, 8), 969);
+        x.client(0, 0);
+        due.is("stride(1)", x.stride(1), 0);
+        due.is("of(0, 4)", x.of(0, 4), MAX);
+        due.is("told(1)", x.told(1), 0);
+        due.is("by(1, 30)", x.by(1, 30), 969);
+        due.is("stride(1)", x.stride(1), 0);
+        due.is("of(0, 4)", x.of(0, 4), 969);
+        due.is("of(1, 4)", x.of(1, 4), 0);
+        due.is("told(1)", x.told(1), 1);
     }
 
     private void told() {
@@ -752,6 +906,13 @@ public final class PromiseTest {
         due.is("lag(0, 1, 0)", x.lag(0, 1, 0), NO);
     }
 
+    private void lagOfOne() {
+        due.promise(22);
+        TicketHall x = hallOf(1);
+        due.is("lag(0, 9, 0)", x.lag(0, 9, 0), 0);
+        due.is("lag(0, 9, 1)", x.lag(0, 9, 1), 1);
+    }
+
     /** WEIGHT and TOTAL are as they are now, though USED is another behind the first QUANTUM. */
     private void lagYielder() {
         due.promise(22);
@@ -806,6 +967,22 @@ public final class PromiseTest {
         due.is("best(0, 9)", x.best(0, 9), -1);
         due.is("best(0, 1)", x.best(0, 1), -1);
         due.is("best(0, MIN)", x.best(0, MIN), -1);
+    }
+
+    /** What nobody has is not ISSUED, so that another TICKET in its CURRENCY is worth more. */
+    private void loss() {
+        due.promise(23);
+        TicketHall x = new TicketHall();
+        x.client(0, 0);
+        x.currency();
+        fund(x, "c1<15c0+15c0;p0<10c1+20c1+16c0");
+        due.is("worth(4, 0)", x.worth(4, 0), 46);
+        due.is("best(0, 0)", x.best(0, 0), 4);
+        x.amount(4, 15);
+        due.is("best(0, 0)", x.best(0, 0), 0);
+        x.ticket(0, 9);
+        x.give(0, -1);
+        due.is("best(0, 0)", x.best(0, 0), 1);
     }
 
     private void raise() {
@@ -1030,6 +1207,55 @@ public final class PromiseTest {
         due.is("ends(2)", none.ends(2), -5);
     }
 
+    /** TICKET 1 is taken, or doubled; CLIENT 1 goes on WAITING. */
+    private void endsWaiting() {
+        due.promise(30);
+        TicketHall x = hallOf(10, 20);
+        x.stride(1);
+        x.waits(1, 0);
+        x.plan(1, 1);
+        x.plan(3, 1);
+        due.is("ends(2)", x.ends(2), 0);
+        x.plan(0, 1);
+        due.is("ends(2)", x.ends(2), 0);
+        x.plan(-1, 0);
+        x.plan(2, 1);
+        due.is("ends(2)", x.ends(2), 1);
+    }
+
+    /** Each sort of row does its own and no other's, to CLIENTS and TICKETS of the same number. */
+    private void endsRows() {
+        due.promise(30);
+        TicketHall x = hallOf(30, 16);
+        x.stride(1);
+        x.plan(3, 0);
+        x.plan(0, 0);
+        x.plan(0, 0);
+        x.plan(0, 0);
+        // 3333333 at first, then by 60 twice 1666666 more: behind 6250000 of the other, as 30 or 90 would not be.
+        due.is("ends(2)", x.ends(2), 1);
+        x.plan(-1, 0);
+        x.waits(1, 0);
+        x.plan(1, 1);
+        due.is("ends(2)", x.ends(2), 0);
+        x.plan(3, 1);
+        due.is("ends(2)", x.ends(2), 0);
+        x.plan(2, 0);
+        due.is("ends(2)", x.ends(2), 0);
+        TicketHall y = new TicketHall();
+        y.client(0, 0);
+        y.client(0, 0);
+        y.currency();
+        fund(y, "c1<20c0;p0<1c1;p1<3c1;p0<1c1+9c0");
+        y.plan(1, 3);
+        y.plan(0, 0);
+        y.plan(0, 0);
+        y.plan(0, 0);
+        // Freed, the last TICKET is not ISSUED: 5 and 9, 15 of 20, not 4 and 9, 12.
+        due.is("ends(0)", y.ends(0), 30);
+        due.is("ends(2)", y.ends(2), 0);
+    }
+
     private void book() {
         due.promise(31);
         TicketHall x = hallOf(2, 4);
@@ -1100,6 +1326,15 @@ public final class PromiseTest {
         due.is("judge(1, 4)", x.judge(1, 4), 101);
         x.item(1, 2, 5L + (1L << 32));
         due.is("judge(1, 2)", x.judge(1, 2), 0);
+        x.tape(1, 3, 3);
+        x.item(1, 0, 5);
+        x.item(1, 1, 9);
+        x.item(1, 2, 9);
+        due.is("judge(1, 0)", x.judge(1, 0), -5);
+        x.item(1, 0, 9);
+        due.is("judge(1, 1)", x.judge(1, 1), 0);
+        x.tape(1, -1, 0);
+        due.is("judge(1, 0)", x.judge(1, 0), 100);
     }
 
     private void image() {
@@ -1243,6 +1478,7 @@ public final class PromiseTest {
         due.is("tape(5, -1, MIN)", x.tape(5, -1, MIN), 1);
         due.is("item(5, 0, 1)", x.item(5, 0, 1), -11);
         due.is("tape(5, -1, 61)", x.tape(5, -1, 61), 1);
+        due.is("read(5, 0)", x.read(5, 0), NO);
     }
 
     private void item() {
@@ -1327,14 +1563,17 @@ public final class PromiseTest {
         currency();
         ticket();
         client();
+        clientPass();
         clientBehindUndo();
         amount();
         give();
         back();
         waits();
+        waitsAll();
         row();
         of();
         parts();
+        partsLater();
         ready();
         card();
         worth();
@@ -1347,15 +1586,22 @@ public final class PromiseTest {
         draw();
         drawYielder();
         limit(17);
+        drawOfOne();
+        limitItself(17);
+        limitItself(18);
         stride();
         lowered();
         limit(18);
+        loweredBeyond();
+        allEight();
         told();
         on();
         by();
         lag();
+        lagOfOne();
         lagYielder();
         best();
+        loss();
         raise();
         see();
         seeds();
@@ -1365,6 +1611,8 @@ public final class PromiseTest {
         plan();
         ends();
         endsAtMost();
+        endsWaiting();
+        endsRows();
         book();
         looked();
         judge();
