@@ -786,7 +786,9 @@ public final class TicketHall {
             used[p] = WHOLE;
             passes[p] = leastPass();
             waiting[p] = NOBODY;
-            Arrays.fill(rows, p * ROW_PARTS, (p + 1) * ROW_PARTS, 0);
+            for (int part = 0; part < ROW_PARTS; part++) {
+                rows[p * ROW_PARTS + part] = 0;
+            }
             clients++;
             return p;
         }
