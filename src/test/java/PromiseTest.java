@@ -1625,7 +1625,7 @@ public final class PromiseTest {
         item();
         read();
         shift();
-        due.needAllPromises();
+        due.needPromises(1, 41);
         due.end();
     }
 

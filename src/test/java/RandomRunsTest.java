@@ -249,6 +249,7 @@ public final class RandomRunsTest {
     }
 
     public static void main(String[] args) throws Exception {
+        Watch.begin("RandomRunsTest");
         int runs = args.length > 0 ? Integer.parseInt(args[0]) : 600;
         long first = args.length > 1 ? Long.parseLong(args[1]) : 1;
         TreeMap<String, Method[]> methods = methods();
