@@ -127,6 +127,24 @@ public final class CurrencyEdgesTest {
                 BARE.then("image", "client 6 4"), 0, 1);
     }
 
+    /** Rows 9, 8, 7 .. of TOLD ones, which must stay their own. */
+    private void clientRows() {
+        edges.promise(4, "ROW 0 at first of each, and each one's its own, as others come and go");
+        Script rows = BARE.then("image");
+        for (int p = 0; p < 8; p++) {
+            rows = rows.then("client 6 0", "row " + p + " 0 " + p, "row " + p + " 1 1", "row " + p + " 2 2",
+                    "row " + p + " 3 " + (9 - p));
+        }
+        String[] look = new String[32];
+        for (int k = 0; k < 32; k++) {
+            int[] part = {k / 4, 1, 2, 9 - k / 4};
+            look[k] = "row " + k / 4 + " " + k % 4 + " 5 = " + part[k % 4];
+        }
+        edges.run(rows, look);
+        edges.same("eight TOLD ones behind undo", rows.then("undo").times(8, "client 6 0"),
+                BARE.then("image").times(8, "client 6 0"), 0, 1);
+    }
+
     // ---- promise 5
 
     private void amount() {
@@ -286,6 +304,10 @@ public final class CurrencyEdgesTest {
         edges.run(Scenes.funded(1, 3, 9999), "of 0 8 = 100000000", "of 1 8 = 33333333", "of 2 8 = 10001");
         edges.run(BARE.then("client 0 0").times(24, "ticket 0 9999").then(each("give # 0", 24)),
                 "worth 4 0 = 239976", "of 0 8 = 416");
+        edges.promise(10, "STRIDE by the most WEIGHT there can be; 1 at least, which none comes down to");
+        edges.run(BARE.then("client 4 0").times(24, "ticket 0 9999").then(each("give # 0", 24)).then("stride 1"),
+                "worth 3 0 = 239976", "worth 4 0 = 2399760", "worth 5 0 = 2399760", "of 0 8 = 41", "stride 1 = 0",
+                "of 0 4 = 457");
         edges.promise(10, "-5: WEIGHT is 0, as of one that holds nothing, or what is cut to nothing");
         edges.run(Scenes.funded(1).then("currency", "ticket 0 1", "ticket 1 1", "ticket 1 1", "back 1 1", "give 2 0",
                 "client 0 0", "give 3 1", "give 0 -1"), "worth 3 0 = 0", "of 0 8 = -5", "of 0 6 = 0", "of 1 8 = -5",
@@ -476,6 +498,7 @@ public final class CurrencyEdgesTest {
         test.ticket();
         test.client();
         test.clientPass();
+        test.clientRows();
         test.amount();
         test.give();
         test.back();

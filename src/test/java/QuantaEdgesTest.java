@@ -300,6 +300,13 @@ public final class QuantaEdgesTest {
         edges.run(Scenes.funded(1), "lag 0 40 0 = 0", "lag 0 40 1 = 1", "lag 0 0 0 = 0");
         edges.promise(22, "a whole number of PARTS: by 1");
         edges.run(Scenes.funded(1, 1), "lag 0 1 0 = 5", "lag 0 1 1 = 1", "lag 1 1 0 = -5", "lag 1 1 1 = 1");
+        edges.promise(22, "great WEIGHTS: 39 of 49 PARTS, less 230 by 231 of 49");
+        Script great = BARE.then("client 1 0", "client 0 0").times(24, "ticket 0 9999").then("give 23 1");
+        for (int t = 0; t < 23; t++) {
+            great = great.then("give " + t + " 0");
+        }
+        edges.run(great.then("stride 1"), "worth 5 0 = 2309769", "lag 0 40 0 = -323", "lag 0 40 1 = 33",
+                "lag 1 40 0 = 323", "lag 1 40 1 = 33");
         edges.promise(22, "PARTS by these QUANTA alone; WEIGHT, TOTAL as both are now");
         edges.run(two.then("stride 1"), "lag 0 0 0 = 0", "lag 0 1 0 = -20", "lag 0 1 1 = 3", "lag 1 1 0 = 20");
         edges.run(BARE.then("client 1 0", "client 0 0", "ticket 0 10", "ticket 0 10", "give 0 0", "give 1 1"),

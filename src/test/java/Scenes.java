@@ -5,8 +5,8 @@ final class Scenes {
 
     static final Script BARE = Script.of();
 
-    /** Some of all, with room for more; THE IMAGE is another than what stands. */
-    static final Script SOME = Script.of("currency", "currency",
+    /** Some of all, with room for more; THE IMAGE is another than what stands; THE TEXT is empty. */
+    static final Script WORDLESS = Script.of("currency", "currency",
             "client 0 0", "client 1 3", "client 2 0", "client 3 0", "client 4 5", "client 5 4", "client 6 1",
             "ticket 0 1000", "ticket 0 500", "ticket 0 250", "ticket 1 30", "ticket 1 70", "ticket 2 9",
             "ticket 2 1", "ticket 0 40", "ticket 0 60", "ticket 0 80", "ticket 0 50",
@@ -17,7 +17,10 @@ final class Scenes {
             "draw 7 3", "stride 4", "see 0 1", "plan 1 4", "plan 2 4", "plan 0 0", "amount 9 81", "row 6 1 8",
             "book -1 0", "book 6 0", "book 0 1",
             "tape 0 0 3", "item 0 1 -128", "tape 1 1 4", "item 1 3 -32768", "tape 2 2 5", "item 2 4 MIN",
-            "tape 3 3 12", "item 3 0 1000", "item 3 11 MOST", "tape 4 4 2", "item 4 1 1").text("p0<5c0;c2<7c1");
+            "tape 3 3 12", "item 3 0 1000", "item 3 11 MOST", "tape 4 4 2", "item 4 1 1");
+
+    /** The same, and THE TEXT is whole. */
+    static final Script SOME = WORDLESS.text("p0<5c0;c2<7c1");
 
     /** As many of all as there may be. */
     static final Script FULL = Script.of("currency", "currency", "currency", "currency", "currency",

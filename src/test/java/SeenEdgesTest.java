@@ -263,6 +263,9 @@ public final class SeenEdgesTest {
         edges.run(waiting, "plan 1 0 = 1", "ends 2 = 1", "plan 3 0 = 2", "ends 2 = 1", "plan 0 0 = 3", "ends 2 = 1",
                 "plan 2 1 = 4", "ends 2 = 1", "plan 2 0 = 5", "ends 2 = 1", "plan -1 0 = 0", "plan 2 0 = 1",
                 "ends 2 = 0");
+        edges.run(waiting, "plan 3 0 = 1", "ends 2 = 1");
+        edges.run(Scenes.funded(1, 1, 1).then("give 0 2", "give 2 0", "waits 0 1", "plan 1 0"), "ends 2 = 1",
+                "plan 2 0 = 2", "ends 2 = 0");
         // By 2 PASS of 0 ends at 100000000, by 4 at 75000000; that of 1 at 99999999.
         edges.run(Scenes.funded(2, 3).then("stride 1", "waits 0 1", "plan 2 0").times(4, "plan 0 0"), "ends 2 = 1",
                 "amount 0 4 = 2", "ends 2 = 0");

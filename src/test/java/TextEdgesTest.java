@@ -207,6 +207,13 @@ public final class TextEdgesTest {
         edges.promise(16, "a FAULT: TICKETS of whole CLAUSES ahead of it do not come");
         edges.run(READY.text("p0<1c0;p0<2c0+3c0;c1<"), "fund = -31", "count 1 = 0");
         edges.run(BARE, "fund = -10", "fund = -10");
+        edges.promise(16, "a FAULT changes nothing but THE TEXT, on halls that hold more, too");
+        String[] faulty = {"x", "p0<5c0;c2<7c1x", "p0<5c0;c2<7c", "c1<3c0+"};
+        for (String text : faulty) {
+            edges.same("FAULT in " + text, Scenes.WORDLESS.text(text).then("fund"), Scenes.WORDLESS, 0, 1, 2, 3, 4, 5);
+        }
+        edges.same("the same of all there may be", FULL.then("fund"), FULL.then("fund", "feed 120", "fund"),
+                0, 1, 2, 3, 4, 5);
     }
 
     public static void main(String[] args) {
