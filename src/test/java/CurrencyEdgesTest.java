@@ -202,6 +202,9 @@ public final class CurrencyEdgesTest {
         edges.promise(7, "STATE: BASE");
         edges.refused(SOME, "back 0 0 = STATE", "back 1 0 = STATE", "back 4 0 = STATE", "back 9 0 = STATE");
         edges.refused(BARE.then("ticket 0 1"), "back 0 0 = STATE");
+        edges.promise(7, "STATE: BASE, also where the TICKET's CURRENCY HANGS ON none, so that nothing else forbids it");
+        edges.refused(BARE.then("currency", "ticket 1 5", "client 0 0", "give 0 0"), "back 0 0 = STATE");
+        edges.refused(BARE.times(5, "currency").then("ticket 5 9999"), "back 0 0 = STATE");
     }
 
     private void backHanging() {
@@ -299,6 +302,18 @@ public final class CurrencyEdgesTest {
         edges.asked(SOME, "of 0 0 = 0", "of 1 1 = 3", "of 4 5 = 2", "of 2 6 = 1", "of 5 6 = 0", "of 4 7 = 3");
     }
 
+    private void ranUsedPass() {
+        edges.promise(10, "USED is 10 at first, and what its latest QUANTUM used then, whatever its PARTS are now");
+        edges.run(BARE.then("client 1 2", "ticket 0 1", "give 0 0"), "of 0 3 = 10", "of 0 7 = 3", "stride 1 = 0",
+                "of 0 3 = 3");
+        edges.run(BARE.then("client 3 0", "ticket 0 1", "give 0 0"), "stride 1 = 0", "of 0 3 = 10", "of 0 7 = 5",
+                "stride 1 = 0", "of 0 3 = 5", "of 0 7 = 5", "stride 1 = 0", "told 0 = 20", "of 0 3 = 5", "of 0 7 = 10");
+        edges.promise(10, "RAN and PASS as great as they may become");
+        edges.run(Scenes.LATE, "of 0 2 = 99990", "of 0 4 = 960000000", "draw 0 1 = STATE");
+        edges.run(Scenes.funded(1).then("stride 21"), "of 0 2 = 210", "of 0 4 = 2100000000", "stride 5 = 0",
+                "of 0 2 = 260", "of 0 4 = 500000000");
+    }
+
     private void strides() {
         edges.promise(10, "STRIDE is 100000000 by WEIGHT, cut");
         edges.run(Scenes.funded(1, 3, 9999), "of 0 8 = 100000000", "of 1 8 = 33333333", "of 2 8 = 10001");
@@ -367,7 +382,8 @@ public final class CurrencyEdgesTest {
         edges.promise(11, "what 0 .. 2, of TICKET 0 to the last");
         edges.run(SOME, "card 0 0 = 0", "card 0 1 = 1000", "card 0 2 = 0", "card 3 0 = 1", "card 3 1 = 30",
                 "card 3 2 = 12", "card 10 0 = 0", "card 10 1 = 50", "card 10 2 = 2", "card 9 2 = -5");
-        edges.run(FULL, "card 23 0 = 1", "card 23 1 = 1", "card 23 2 = -5", "card 12 2 = 15", "card 7 2 = 7");
+        edges.run(FULL, "card 23 0 = 1", "card 23 1 = 1", "card 23 2 = -5", "card 12 2 = 15", "card 7 2 = 7",
+                "card 14 0 = 2", "card 15 0 = 3", "card 16 0 = 4", "card 17 0 = 5");
         edges.promise(11, "NONE: ticket, what");
         edges.refused(SOME, "card -1 0 = NONE", "card 11 0 = NONE", "card 24 1 = NONE", "card MIN 2 = NONE",
                 "card MAX 2 = NONE", "card 0 -1 = NONE", "card 0 3 = NONE", "card 0 MIN = NONE", "card 0 MAX = NONE",
@@ -506,6 +522,7 @@ public final class CurrencyEdgesTest {
         test.waits();
         test.row();
         test.of();
+        test.ranUsedPass();
         test.strides();
         test.ready();
         test.parts();

@@ -179,7 +179,9 @@ public final class QuantaEdgesTest {
                 "stride 1 = 7", "told 2 = 0", "give 7 -1 = 7", "told 3 = 127", "give 0 -1 = 0", "told 3 = 126",
                 "told 2 = 1", "told 0 = 80");
         edges.run(LATEST, "told 0 = 99999", "told 2 = -5", "told 3 = 0");
-        edges.run(Scenes.funded(1).then("stride 22"), "told 1 = 1");
+        edges.run(Scenes.funded(1).then("stride 21"), "told 1 = 0", "stride 1 = 0", "told 1 = 1", "stride 20 = 0",
+                "told 1 = 1", "stride 1 = 0", "told 1 = 2", "stride 20 = 0", "told 1 = 2", "stride 1 = 0",
+                "told 1 = 3");
         edges.promise(19, "NONE");
         edges.refused(SOME, "told -1 = NONE", "told 4 = NONE", "told MIN = NONE", "told MAX = NONE");
         edges.refused(BARE, "told -1 = NONE", "told 4 = NONE");
